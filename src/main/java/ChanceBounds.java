@@ -68,9 +68,12 @@ public final class ChanceBounds {
     }
 
     public int read() {
-        int fault = reader.findFault();
-        if (fault >= 0) {
-            return FAULT_BASE - fault;
+        reader.start();
+        for (int n = 0; n <= MOST_SAYINGS && reader.isMore(); n++) {
+            reader.readSaying();
+        }
+        if (reader.fault >= 0) {
+            return FAULT_BASE - reader.fault;
         }
         for (int i = 0; i < MOST_SAYINGS; i++) {
             sayings[i].take(reader.found[i]);
@@ -137,14 +140,14 @@ public final class ChanceBounds {
     // ---- what can be
 
     public int could() {
-        return ladder.rowsBy(sayings, onSet()).isEmpty() ? 0 : 1;
+        return rowsByOn().isEmpty() ? 0 : 1;
     }
 
     public long bound(int thing, int other, int which, int what) {
         if (!isThing(thing) || !isThing(other) || !isZeroOrOne(which) || !isZeroOrOne(what)) {
             return NO;
         }
-        ladder.rowsBy(sayings, onSet()).findShare(thing, other, which, answer);
+        rowsByOn().findShare(thing, other, which, answer);
         return answer.inLeastTerms(what);
     }
 
@@ -152,7 +155,7 @@ public final class ChanceBounds {
         if (!isThing(thing) || !isThing(other) || !isZeroOrOne(which) || !isZeroOrOne(what)) {
             return NO;
         }
-        ladder.rowsBy(sayings, onSet()).findDifference(thing, other, which, answer);
+        rowsByOn().findDifference(thing, other, which, answer);
         return answer.inLeastTerms(what);
     }
 
@@ -160,12 +163,12 @@ public final class ChanceBounds {
         if (!isWorld(world) || !isZeroOrOne(what)) {
             return NO;
         }
-        ladder.rowsBy(sayings, onSet()).findInFirstRow(world, answer);
+        rowsByOn().findInFirstRow(world, answer);
         return answer.inLeastTerms(what);
     }
 
     public int never() {
-        return ladder.rowsBy(sayings, onSet()).worldsWithoutChance();
+        return rowsByOn().worldsWithoutChance();
     }
 
     // ---- sayings among one another
@@ -185,7 +188,7 @@ public final class ChanceBounds {
         int on = onSet();
         int best = -1;
         for (int set = 0; set <= on; set++) {
-            if (isFewerOf(on, set, best) && ladder.rowsBy(sayings, set).isEmpty()) {
+            if (isFewerOf(on, set, best) && ladder.rowsBy(sayings, set, 0, 0).isEmpty()) {
                 best = set;
             }
         }
@@ -197,7 +200,7 @@ public final class ChanceBounds {
             return BAD;
         }
         int others = onSet() & ~(1 << i);
-        return ladder.rowsBy(sayings, others).allKeep(sayings[i]) ? 1 : 0;
+        return ladder.rowsBy(sayings, others, 0, 0).allKeep(sayings[i]) ? 1 : 0;
     }
 
     public int needed(int thing, int other, int what) {
@@ -210,13 +213,13 @@ public final class ChanceBounds {
 
     private int fewestThatTellAsMuch(int thing, int condition) {
         int on = onSet();
-        Corners byAll = ladder.rowsBy(sayings, on);
+        Corners byAll = ladder.rowsBy(sayings, on, 0, 0);
         byAll.findShare(thing, condition, 0, leastByAll);
         byAll.findShare(thing, condition, 1, greatestByAll);
         int best = -1;
         for (int set = 0; set < on; set++) {
             if (isFewerOf(on, set, best)) {
-                Corners rows = ladder.rowsBy(sayings, set);
+                Corners rows = ladder.rowsBy(sayings, set, 0, 0);
                 rows.findShare(thing, condition, 0, least);
                 rows.findShare(thing, condition, 1, greatest);
                 if (least.isSameAs(leastByAll) && greatest.isSameAs(greatestByAll)) {
@@ -246,7 +249,7 @@ public final class ChanceBounds {
     }
 
     private int leastGiving(int set, int giving) {
-        if (ladder.rowsByLoosened(sayings, set, giving, HUNDREDTHS).isEmpty()) {
+        if (ladder.rowsBy(sayings, set, giving, HUNDREDTHS).isEmpty()) {
             return NONE;
         }
         int low = 0;
@@ -254,7 +257,7 @@ public final class ChanceBounds {
         // What can be by so many hundredths can be by more: halve until one number is left.
         for (int n = 0; n < HUNDREDTHS && low < high; n++) {
             int middle = (low + high) / 2;
-            if (ladder.rowsByLoosened(sayings, set, giving, middle).isEmpty()) {
+            if (ladder.rowsBy(sayings, set, giving, middle).isEmpty()) {
                 low = middle + 1;
             } else {
                 high = middle;
@@ -323,6 +326,10 @@ public final class ChanceBounds {
             }
         }
         return set;
+    }
+
+    private Corners rowsByOn() {
+        return ladder.rowsBy(sayings, onSet(), 0, 0);
     }
 
     private boolean isSaying(int i) {
@@ -439,8 +446,8 @@ public final class ChanceBounds {
         }
 
         void step() {
-            for (; place < text.length && text.at(place) == ' '; place++) {
-                kind = END;
+            while (place < text.length && text.at(place) == ' ') {
+                place++;
             }
             start = place;
             int sign = text.at(place);
@@ -457,8 +464,8 @@ public final class ChanceBounds {
         }
 
         private void stepOverWord() {
-            for (; place < text.length && isLetter(text.at(place)); place++) {
-                kind = WRONG;
+            while (place < text.length && isLetter(text.at(place))) {
+                place++;
             }
             int letter = text.at(start) - 'a';
             if (place - start == 1 && letter >= 0 && letter < WORLDS_OF_LETTER.length) {
@@ -466,13 +473,16 @@ public final class ChanceBounds {
                 value = WORLDS_OF_LETTER[letter];
             } else if (place - start == 2 && text.at(start) == 'i' && text.at(start + 1) == 'f') {
                 kind = IF;
+            } else {
+                kind = WRONG;
             }
         }
 
         private void stepOverNumber() {
             value = 0;
-            for (; place < text.length && isDigit(text.at(place)); place++) {
+            while (place < text.length && isDigit(text.at(place))) {
                 value = Math.min(10 * value + text.at(place) - '0', TOO_MUCH);
+                place++;
             }
             boolean isPadded = text.at(start) == '0' && place - start > 1;
             kind = isPadded || value == TOO_MUCH ? WRONG : NUMBER;
@@ -496,6 +506,7 @@ public final class ChanceBounds {
         private final Saying[] found;
         private int complete;
         private int letters;
+        /** The place of the first fault, or -1. */
         private int fault;
 
         Reader(Text text) {
@@ -506,27 +517,22 @@ public final class ChanceBounds {
             }
         }
 
-        /** The place of the first fault, or -1. */
-        int findFault() {
+        void start() {
             complete = 0;
             fault = -1;
             tokens.restart();
-            for (int n = 0; n <= MOST_SAYINGS && isMore(); n++) {
-                if (complete < MOST_SAYINGS) {
-                    readSaying(found[complete]);
-                    complete++;
-                } else {
-                    fail();
-                }
-            }
-            return fault;
         }
 
-        private boolean isMore() {
+        boolean isMore() {
             return fault < 0 && tokens.kind != Tokens.END;
         }
 
-        private void readSaying(Saying saying) {
+        void readSaying() {
+            if (complete >= MOST_SAYINGS) {
+                fail();
+                return;
+            }
+            Saying saying = found[complete];
             letters = 0;
             saying.x = readFormula(0);
             saying.y = ALL_WORLDS;
@@ -540,6 +546,7 @@ public final class ChanceBounds {
             saying.to = readHundredths(saying.from);
             expect(';');
             saying.isOn = 1;
+            complete++;
         }
 
         /** The depth is how many ( and ! are open. */
@@ -689,7 +696,7 @@ public final class ChanceBounds {
      * no common divisor; its chances are their shares of all of them.
      */
     private static final class Corners {
-        /** An edge lies in all but two of eight directions on some limit. */
+        /** Of eight directions an edge has two: the others are taken by a limit each, at least. */
         private static final int LIMITS_OF_EDGE = WORLDS - 2;
 
         private final long[] parts;
@@ -734,16 +741,16 @@ public final class ChanceBounds {
             cutBy.take(by);
             corners = 0;
             before.measure(by);
-            for (int p = 0; p < before.corners; p++) {
-                if (before.overFrom[p] >= 0 && before.underTo[p] >= 0) {
-                    keep(before, p);
+            for (int corner = 0; corner < before.corners; corner++) {
+                if (before.overFrom[corner] >= 0 && before.underTo[corner] >= 0) {
+                    keep(before, corner);
                 }
-                for (int q = 0; q < p; q++) {
-                    if (before.isParted(p, q) && before.isEdge(p, q)) {
-                        addOnFrom(before, p, q);
-                        addOnTo(before, p, q);
-                    }
-                }
+            }
+            if (by.from == by.to) {
+                addCrossings(before, before.overFrom, fromBit | toBit);
+            } else {
+                addCrossings(before, before.overFrom, fromBit);
+                addCrossings(before, before.underTo, toBit);
             }
         }
 
@@ -754,14 +761,6 @@ public final class ChanceBounds {
                 overFrom[corner] = by.overFrom(both, condition);
                 underTo[corner] = by.underTo(both, condition);
             }
-        }
-
-        private boolean isParted(int p, int q) {
-            return areOpposed(overFrom[p], overFrom[q]) || areOpposed(underTo[p], underTo[q]);
-        }
-
-        private static boolean areOpposed(long one, long another) {
-            return one < 0 && another > 0 || one > 0 && another < 0;
         }
 
         /** Two corners make an edge if no third one lies on all the limits that they share. */
@@ -788,25 +787,21 @@ public final class ChanceBounds {
             add(met);
         }
 
-        private void addOnFrom(Corners before, int p, int q) {
-            if (areOpposed(before.overFrom[p], before.overFrom[q])) {
-                mix(before, p, before.overFrom[q], q, before.overFrom[p]);
-                int met = cutBy.from == cutBy.to ? fromBit | toBit : fromBit;
-                add(before.limits[p] & before.limits[q] | met);
-            }
-        }
-
-        private void addOnTo(Corners before, int p, int q) {
-            if (cutBy.from < cutBy.to && areOpposed(before.underTo[p], before.underTo[q])) {
-                mix(before, p, before.underTo[q], q, before.underTo[p]);
-                add(before.limits[p] & before.limits[q] | toBit);
+        private void addCrossings(Corners before, long[] slack, int met) {
+            for (int p = 0; p < before.corners; p++) {
+                for (int q = 0; q < before.corners && slack[p] < 0; q++) {
+                    if (slack[q] > 0 && before.isEdge(p, q)) {
+                        mix(before, p, slack[q], q, -slack[p]);
+                        add(before.limits[p] & before.limits[q] | met);
+                    }
+                }
             }
         }
 
         private void mix(Corners before, int p, long timesP, int q, long timesQ) {
             for (int world = 0; world < WORLDS; world++) {
-                mixed[world] = Math.abs(timesP) * before.parts[WORLDS * p + world]
-                        + Math.abs(timesQ) * before.parts[WORLDS * q + world];
+                mixed[world] = timesP * before.parts[WORLDS * p + world]
+                        + timesQ * before.parts[WORLDS * q + world];
             }
         }
 
@@ -928,12 +923,8 @@ public final class ChanceBounds {
             asked = new Saying();
         }
 
-        Corners rowsBy(Saying[] sayings, int set) {
-            return rowsByLoosened(sayings, set, 0, 0);
-        }
-
         /** The rows that can be by a set of sayings, of which some give way by so much. */
-        Corners rowsByLoosened(Saying[] sayings, int set, int giving, int by) {
+        Corners rowsBy(Saying[] sayings, int set, int giving, int by) {
             int step = 0;
             for (int i = sayings.length - 1; i >= 0; i--) {
                 if (has(set, i) && step + 1 < steps.length) {
