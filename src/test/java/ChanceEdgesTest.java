@@ -16,6 +16,7 @@ public final class ChanceEdgesTest {
         ofTheChanceOfY();
         conditionWithoutChance();
         onlyThoseThatAreOn();
+        asTheyAreNow();
         couldAtTheEdge();
         boundWhereOtherHasChance();
         boundNone();
@@ -43,6 +44,11 @@ public final class ChanceEdgesTest {
 
     private static void never(String text, int due) {
         is.due("never of " + text, is.read(text).never(), due);
+    }
+
+    /** The FORMULA that holds in one WORLD alone. */
+    private static String formulaOf(int world) {
+        return ((world & 1) != 0 ? "a&" : "!a&") + ((world & 2) != 0 ? "b&" : "!b&") + ((world & 4) != 0 ? "c" : "!c");
     }
 
     private static void quarrel(ChanceBounds x, int many, int set) {
@@ -244,6 +250,22 @@ public final class ChanceEdgesTest {
         is.bounds(x, C, ALL, "99/100", "1/1");
     }
 
+    private static void asTheyAreNow() {
+        is.of("CAN BE: by SAYINGS as they are now, not as they were when something was asked before");
+        ChanceBounds x = new ChanceBounds();
+        String[] texts = {"a if b 20-30;", "a if b 20-40;", "a if b 10-40;", "a if c 10-40;", "b if c 10-40;", "b if c 10-40;c if a 0-0;",
+            "b if c 10-40;c if b 0-0;", "", "c if a 0-0;b if c 10-40;", "a&!a if b&!b 0-0;"};
+        String[] least = {"1/5", "1/5", "1/10", "0/1", "0/1", "0/1", "0/1", "0/1", "0/1", "0/1"};
+        String[] greatest = {"3/10", "2/5", "2/5", "1/1", "1/1", "1/1", "1/1", "1/1", "1/1", "1/1"};
+        int[] never = {0, 0, 0, 0, 0, A & C, C, 0, A & C, 0};
+        for (int n = 0; n < texts.length; n++) {
+            Sentences.typeAll(x, texts[n]);
+            is.due("read of " + texts[n], x.read(), Sentences.sayingsIn(texts[n]));
+            is.bounds(x, A, B, least[n], greatest[n]);
+            is.due("never", x.never(), never[n]);
+        }
+    }
+
     private static void couldAtTheEdge() {
         is.of("could: Whether there are ROWS that CAN BE");
         could("", 1);
@@ -367,6 +389,13 @@ public final class ChanceEdgesTest {
         never("a&!a 1-100;", ALL);
         never("a 0-0;b 0-0;c 0-0;", 254);
         never("a 0-0;b 0-0;c 0-0;!a&!b&!c 0-0;", ALL);
+        for (int world = 0; world < 8; world++) {
+            never(formulaOf(world) + " 0-100;", 0);
+            never(formulaOf(world) + " 0-1;", 0);
+            never(formulaOf(world) + " 0-0;", 1 << world);
+            never(formulaOf(world) + " 99-100;", 0);
+            never(formulaOf(world) + " 100-100;", ALL - (1 << world));
+        }
         ChanceBounds x = is.read("a 0-0;b 0-0;");
         is.due("never", x.never(), A | B);
         x.on(0, 0);
@@ -479,6 +508,13 @@ public final class ChanceEdgesTest {
         is.due("each by the other", z.follows(0), 1);
         is.due("each by the other", z.follows(1), 1);
         is.due("alone", is.read("a&!a 1-1;").follows(0), 0);
+        is.of("FOLLOWS: HOLDS in all ROWS: one WORLD alone is enough against it");
+        for (int world = 0; world < 8; world++) {
+            is.due("WORLD " + world + " may be sure", is.read(formulaOf(world) + " 0-99;").follows(0), 0);
+            is.due("WORLD " + world + " may have none", is.read(formulaOf(world) + " 1-100;").follows(0), 0);
+            is.due("the others may have none", is.read("!(" + formulaOf(world) + ") 1-100;").follows(0), 0);
+            is.due("always", is.read(formulaOf(world) + " 0-100;").follows(0), 1);
+        }
         is.of("follows: BAD");
         is.due("follows(2)", z.follows(2), BAD);
         is.due("follows(-1)", z.follows(-1), BAD);
