@@ -254,10 +254,10 @@ public final class ChanceEdgesTest {
         is.of("CAN BE: by SAYINGS as they are now, not as they were when something was asked before");
         ChanceBounds x = new ChanceBounds();
         String[] texts = {"a if b 20-30;", "a if b 20-40;", "a if b 10-40;", "a if c 10-40;", "b if c 10-40;", "b if c 10-40;c if a 0-0;",
-            "b if c 10-40;c if b 0-0;", "", "c if a 0-0;b if c 10-40;", "a&!a if b&!b 0-0;"};
-        String[] least = {"1/5", "1/5", "1/10", "0/1", "0/1", "0/1", "0/1", "0/1", "0/1", "0/1"};
-        String[] greatest = {"3/10", "2/5", "2/5", "1/1", "1/1", "1/1", "1/1", "1/1", "1/1", "1/1"};
-        int[] never = {0, 0, 0, 0, 0, A & C, C, 0, A & C, 0};
+            "b if c 10-40;c if b 0-0;", "", "c if a 0-0;b if c 10-40;", "a 100-100;", "a&!a if b&!b 0-0;"};
+        String[] least = {"1/5", "1/5", "1/10", "0/1", "0/1", "0/1", "0/1", "0/1", "0/1", "1/1", "0/1"};
+        String[] greatest = {"3/10", "2/5", "2/5", "1/1", "1/1", "1/1", "1/1", "1/1", "1/1", "1/1", "1/1"};
+        int[] never = {0, 0, 0, 0, 0, A & C, C, 0, A & C, ALL - A, 0};
         for (int n = 0; n < texts.length; n++) {
             Sentences.typeAll(x, texts[n]);
             is.due("read of " + texts[n], x.read(), Sentences.sayingsIn(texts[n]));
@@ -373,6 +373,14 @@ public final class ChanceEdgesTest {
         is.firstRow(is.read("!a&!b&!c if !b&!c 50-50;c|b 30-60;"), "1/5 1/5 0/1 0/1 0/1 0/1 0/1 3/5");
         is.of("first: NO: NONE");
         is.firstRow(is.read("a 0-1;a 2-3;"), "none none none none none none none none");
+        ChanceBounds x = is.read("a 100-100;a 99-100;");
+        is.firstRow(x, "0/1 0/1 0/1 0/1 0/1 0/1 0/1 1/1");
+        x.move(1, 1, 99);
+        is.firstRow(x, "none none none none none none none none");
+        is.differences(x, A, 0, "none", "none");
+        x.on(0, 0);
+        is.firstRow(x, "0/1 0/1 0/1 0/1 0/1 0/1 1/100 99/100");
+        is.differences(x, A, 0, "99/100", "99/100");
     }
 
     private static void nevers() {
