@@ -582,8 +582,10 @@ public final class ChanceBounds {
             if (isAt('(') && depth < MOST_OPEN) {
                 tokens.step();
                 int worlds = readFormula(depth + 1);
-                expect(')');
-                return worlds;
+                if (isAt(')')) {
+                    tokens.step();
+                    return worlds;
+                }
             }
             fail();
             return 0;
